@@ -16,7 +16,7 @@ public final class TicketJournal {
 
     private static final int TICKET = 0, CANCELLATION = 1, CLOCK_STEP = 2, CLOSE = 3, PAPER = 4;
     private static final int EMPTY = 0, WHOLE = 1, TORN = 2;
-    private static final int NUMBER = 0, KIND = 1, TIME = 2, VALUE = 3, BLOCK = 4, PLACE = 5;
+    private static final int NUMBER = 0, KIND = 1, TIME = 2, VALUE = 3, BLOCK = 4, PLACE = 5, DETAILS = 6;
 
     private static final int SORTS = 4, SORT_FACTOR = 1000, MOST_PRICE = 999;
     private static final int MOST_SUM = 60000, MOST_TIME = 60000, MOST_PAPER = 50000;
@@ -26,12 +26,12 @@ public final class TicketJournal {
 
     private final Printer present = new Printer();
     private final Printer trial = new Printer();
-    private final Journal journal = new Journal(present.flash);
+    private final Journal journal = new Journal();
     private final Past past = new Past();
     private final Image[] images = new Image[IMAGES];
 
     public TicketJournal() {
-        for (int i = 0; i < IMAGES; i++) {
+        for (int i = 0; i < images.length; i++) {
             images[i] = new Image();
         }
     }
@@ -198,7 +198,7 @@ public final class TicketJournal {
         switch (kind) {
             case -2: return present.flash.tally(TORN);
             case -1: return present.flash.tally(WHOLE);
-            default: return isWithin(kind, TICKET, PAPER) ? journal.countOf(kind) : BAD;
+            default: return isWithin(kind, TICKET, PAPER) ? journal.gather(present.flash).countOf(kind) : BAD;
         }
     }
 
@@ -206,26 +206,28 @@ public final class TicketJournal {
         if (k < 0 || !isWithin(what, NUMBER, PLACE)) {
             return BAD;
         }
-        return k < journal.gather() ? journal.detail(k, what) : NONE;
+        return journal.gather(present.flash).detail(k, what);
     }
 
     public int takings(int sort) {
         if (sort != -1 && !isSort(sort)) {
             return BAD;
         }
-        return journal.pricesOf(TICKET, sort) - journal.pricesOf(CANCELLATION, sort);
+        Journal read = journal.gather(present.flash);
+        return read.pricesOf(TICKET, sort) - read.pricesOf(CANCELLATION, sort);
     }
 
     public float mean() {
-        int tickets = journal.countOf(TICKET);
-        return tickets == 0 ? 0.0f : (float) journal.pricesOf(TICKET, -1) / (float) tickets;
+        Journal read = journal.gather(present.flash);
+        int tickets = read.countOf(TICKET);
+        return tickets == 0 ? 0.0f : (float) read.pricesOf(TICKET, -1) / (float) tickets;
     }
 
     public int times(int what) {
         switch (what) {
-            case 0: return journal.stepsBack();
-            case 1: return journal.greatestStep();
-            case 2: return journal.numberGaps();
+            case 0: return journal.gather(present.flash).stepsBack();
+            case 1: return journal.gather(present.flash).greatestStep();
+            case 2: return journal.gather(present.flash).numberGaps();
             default: return BAD;
         }
     }
@@ -320,6 +322,16 @@ public final class TicketJournal {
         return 40 + 20 * sort;
     }
 
+    /** The check of a block that begins with the five words a to e. */
+    private static int headerCheck(int a, int b, int c, int d, int e) {
+        return (3 * a + 5 * b + 7 * c + 11 * d + 13 * e + 1) % MODULUS;
+    }
+
+    /** The check of a record with the three words a to c, in a block with a sequence number. */
+    private static int recordCheck(int a, int b, int c, int sequence) {
+        return (3 * a + 5 * b + 7 * c + 11 * sequence + 2) % MODULUS;
+    }
+
     /** The flash, how its blocks and records are told from torn ones, and the cut. */
     private static final class Flash {
         private final int[] words = new int[BLOCKS * WORDS];
@@ -385,16 +397,6 @@ public final class TicketJournal {
             return block >= 0 && block < erasures.length ? erasures[block] : 0;
         }
 
-        int headerCheck(int block) {
-            return (3 * read(block, 0) + 5 * read(block, 1) + 7 * read(block, 2)
-                    + 11 * read(block, 3) + 13 * read(block, 4) + 1) % MODULUS;
-        }
-
-        int recordCheck(int block, int place) {
-            return (3 * recordWord(block, place, 0) + 5 * recordWord(block, place, 1)
-                    + 7 * recordWord(block, place, 2) + 11 * read(block, 0) + 2) % MODULUS;
-        }
-
         int recordWord(int block, int place, int i) {
             return read(block, HEADER + place * RECORD + i);
         }
@@ -405,7 +407,9 @@ public final class TicketJournal {
                     return false;
                 }
             }
-            return read(block, HEADER - 1) == headerCheck(block);
+            int check = headerCheck(read(block, 0), read(block, 1), read(block, 2),
+                    read(block, 3), read(block, 4));
+            return read(block, HEADER - 1) == check;
         }
 
         /** EMPTY, WHOLE or TORN, for a place of a whole block. */
@@ -413,8 +417,9 @@ public final class TicketJournal {
             if (isEmpty(block, place)) {
                 return EMPTY;
             }
-            int check = recordWord(block, place, RECORD - 1);
-            return check == recordCheck(block, place) ? WHOLE : TORN;
+            int check = recordCheck(recordWord(block, place, 0), recordWord(block, place, 1),
+                    recordWord(block, place, 2), read(block, 0));
+            return recordWord(block, place, RECORD - 1) == check ? WHOLE : TORN;
         }
 
         private boolean isEmpty(int block, int place) {
@@ -659,13 +664,14 @@ public final class TicketJournal {
         private boolean beginBlock() {
             int block = (memory.current + 1) % BLOCKS;
             int sequence = (flash.read(memory.current, 0) + 1) % NUMBERS;
+            int check = headerCheck(sequence, memory.sum, memory.tickets, memory.paper, memory.number);
             boolean begun = flash.erase(block)
                     && flash.write(block, 0, sequence)
                     && flash.write(block, 1, memory.sum)
                     && flash.write(block, 2, memory.tickets)
                     && flash.write(block, 3, memory.paper)
                     && flash.write(block, 4, memory.number)
-                    && flash.write(block, 5, flash.headerCheck(block));
+                    && flash.write(block, 5, check);
             if (begun) {
                 memory.current = block;
                 memory.next = 0;
@@ -676,26 +682,21 @@ public final class TicketJournal {
         private boolean fillPlace(int first, int at, int value) {
             int block = memory.current;
             int k = HEADER + memory.next * RECORD;
+            int check = recordCheck(first, at, value, flash.read(block, 0));
             return flash.write(block, k, first)
                     && flash.write(block, k + 1, at)
                     && flash.write(block, k + 2, value)
-                    && flash.write(block, k + 3, flash.recordCheck(block, memory.next));
+                    && flash.write(block, k + 3, check);
         }
     }
 
-    /** The whole records of a flash, from the oldest one. */
+    /** The whole records of a flash, from the oldest one, as they were when it was read. */
     private static final class Journal {
-        private final Flash flash;
-        /** Where each record stands: its block times PLACES, plus its place. */
-        private final int[] found = new int[BLOCKS * PLACES];
+        private final int[] details = new int[BLOCKS * PLACES * DETAILS];
+        private int count = 0;
 
-        Journal(Flash flash) {
-            this.flash = flash;
-        }
-
-        /** Looks the records up anew; tells how many there are. */
-        int gather() {
-            int count = 0;
+        Journal gather(Flash flash) {
+            count = 0;
             int newest = flash.newestBlock();
             // Each block is begun behind the one before it, so the ring of
             // blocks behind the newest one goes from the oldest to the newest.
@@ -703,32 +704,38 @@ public final class TicketJournal {
                 int block = (newest + i) % BLOCKS;
                 boolean whole = flash.isWhole(block);
                 for (int place = 0; whole && place < PLACES; place++) {
-                    if (flash.stateOf(block, place) == WHOLE && count < found.length) {
-                        found[count] = block * PLACES + place;
-                        count++;
+                    if (flash.stateOf(block, place) == WHOLE) {
+                        add(flash, block, place);
                     }
                 }
             }
-            return count;
+            return this;
         }
 
-        /** A number of the k-th record that gather() found. */
-        int detail(int k, int what) {
-            int spot = k >= 0 && k < found.length ? found[k] : 0;
-            int block = spot / PLACES;
-            int place = spot % PLACES;
-            switch (what) {
-                case NUMBER: return flash.recordWord(block, place, 0) % NUMBERS;
-                case KIND: return flash.recordWord(block, place, 0) / NUMBERS;
-                case TIME: return flash.recordWord(block, place, 1);
-                case VALUE: return flash.recordWord(block, place, 2);
-                case BLOCK: return block;
-                default: return place;
+        private void add(Flash flash, int block, int place) {
+            int first = flash.recordWord(block, place, 0);
+            setDetail(NUMBER, first % NUMBERS);
+            setDetail(KIND, first / NUMBERS);
+            setDetail(TIME, flash.recordWord(block, place, 1));
+            setDetail(VALUE, flash.recordWord(block, place, 2));
+            setDetail(BLOCK, block);
+            setDetail(PLACE, place);
+            count++;
+        }
+
+        private void setDetail(int what, int number) {
+            int at = count * DETAILS + what;
+            if (at >= 0 && at < details.length) {
+                details[at] = number;
             }
         }
 
+        int detail(int k, int what) {
+            int at = k * DETAILS + what;
+            return k >= 0 && k < count && at >= 0 && at < details.length ? details[at] : NONE;
+        }
+
         int countOf(int kind) {
-            int count = gather();
             int same = 0;
             for (int k = 0; k < count; k++) {
                 if (detail(k, KIND) == kind) {
@@ -740,7 +747,6 @@ public final class TicketJournal {
 
         /** The sum of the prices in the records of a kind, for one sort or (-1) for all. */
         int pricesOf(int kind, int sort) {
-            int count = gather();
             int sum = 0;
             for (int k = 0; k < count; k++) {
                 int value = detail(k, VALUE);
@@ -753,7 +759,6 @@ public final class TicketJournal {
         }
 
         int stepsBack() {
-            int count = gather();
             int steps = 0;
             for (int k = 1; k < count; k++) {
                 if (stepTo(k) < 0) {
@@ -764,7 +769,6 @@ public final class TicketJournal {
         }
 
         int greatestStep() {
-            int count = gather();
             int greatest = count < 2 ? 0 : stepTo(1);
             for (int k = 2; k < count; k++) {
                 greatest = Math.max(greatest, stepTo(k));
@@ -777,7 +781,6 @@ public final class TicketJournal {
         }
 
         int numberGaps() {
-            int count = gather();
             int gaps = 0;
             for (int k = 1; k < count; k++) {
                 if (detail(k, NUMBER) != (detail(k - 1, NUMBER) + 1) % NUMBERS) {
@@ -795,7 +798,7 @@ public final class TicketJournal {
         private int size = 0;
 
         Past() {
-            for (int i = 0; i < STATES; i++) {
+            for (int i = 0; i < states.length; i++) {
                 states[i] = new Printer();
             }
         }

@@ -277,6 +277,9 @@ public final class PrinterTest {
         x.undo();
         CHECK.dueWords(x, 0, 14, 65535, 65535, 65535, 65535);
         CHECK.dueTold(x, 1, 0, 2, 150, 1, 960, 0, 2, 30, 1, 8, Check.NONE, 2);
+        CHECK.due("undo() of sell(0)", x.undo(), 1);
+        CHECK.dueTold(x, 1, 0, 1, 0, 0, 1000, 0, 1, 70, 0, 4, Check.NONE, 1);
+        x.sell(0);
         x.off();
         CHECK.due("undo() of off()", x.undo(), 2);
         CHECK.due("told(3)", x.told(3), 150);

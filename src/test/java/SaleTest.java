@@ -167,6 +167,19 @@ public final class SaleTest {
         CHECK.due("cancel() into the next block", x.cancel(), 800);
         CHECK.dueWords(x, 1, 0, 1, 1100, 3, 820, 4);
         CHECK.dueTold(x, 1, 0, 5, 300, 2, 820, 1, 1, 820, 3, 27);
+        CHECK.due("told(12)", x.told(12), 5);
+        CHECK.due("undo()", x.undo(), 4);
+        CHECK.dueTold(x, 1, 0, 4, 1100, 3, 820, 0, 4, 820, 3, 16);
+        x.close();
+        x.undo();
+        x.load(820, 820);
+        x.close();
+        x.close();
+        x.close();
+        x.sell(1);
+        CHECK.due("told(7)", x.told(7), 1);
+        CHECK.due("cancel() of the ticket at place 0", x.cancel(), 250);
+        CHECK.due("told(4)", x.told(4), 0);
     }
 
     private static void cancelRefused() {
@@ -235,6 +248,8 @@ public final class SaleTest {
         CHECK.dueTold(x, 1, 3, 5, 0, 0, 840, 1, 1, 840, 2, 27);
         CHECK.dueWords(x, 1, 0, 1, 1050, 2, 840, 4);
         CHECK.dueRecord(x, 4, 4, 3, 3, 1050, 1, 0);
+        // 3 * 30004 + 5 * 3 + 7 * 1050 + 11 * 1 + 2 is 97390: the check wraps.
+        CHECK.dueWords(x, 1, 6, 30004, 3, 1050, 97390 - 65521);
         CHECK.due("close() again", x.close(), 0);
     }
 
