@@ -3,6 +3,9 @@ import java.util.Random;
 /** Long runs of calls of all kinds: each answer of the class is that of the model. */
 public final class ModelTest {
     private static final int RUNS = 1500, CALLS = 300;
+    /** So many closes lead to the last numbers of records, and to the last blocks, before 0 comes again. */
+    private static final int[] LONG = {9990, 39985};
+    private static final int LONG_RUNS = 10;
     private static final Check CHECK = new Check();
 
     private final Random random;
@@ -27,7 +30,24 @@ public final class ModelTest {
             }
             test.readAll();
         }
+        // The document promises nothing behind 512 calls, but names the wraps that come there.
+        for (int closes : LONG) {
+            for (int run = 0; run < LONG_RUNS; run++) {
+                longRun(closes, run);
+            }
+        }
         CHECK.end("ModelTest");
+    }
+
+    private static void longRun(int closes, int run) {
+        ModelTest test = new ModelTest(run);
+        for (int i = 0; i < closes; i++) {
+            test.due("close()", test.x.close(), test.model.close());
+        }
+        for (int i = 0; i < CALLS; i++) {
+            test.call();
+        }
+        test.readAll();
     }
 
     private void due(String call, double got, double want) {
